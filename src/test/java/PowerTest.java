@@ -1,0 +1,180 @@
+/** Promise 2: power, and the reset that comes with it. */
+public final class PowerTest {
+    public static void main(String[] args) {
+        onAndOff();
+        wrongNodes();
+        offTakesItsFramesAway();
+        offKeepsObjectsAndOnResetsThem();
+        onForgetsSamples();
+        onForgetsSyncs();
+        onForgetsWhatWasHeard();
+        onForgetsTheReadOut();
+        onWithAFullBus();
+        offMeansDeaf();
+        Check.end();
+    }
+
+    private static void onAndOff() {
+        for (int n = 1; n <= 4; n++) {
+            FieldNet x = new FieldNet();
+            Check.refused("off already", x.power(n, false));
+            Check.accepted("on", x.power(n, true));
+            Check.due("state", Steps.PREPARED, x.state(n));
+            Check.due("beat", (1792 + n) + " 0 0 0", Steps.pending(x));
+            Check.refused("on already", x.power(n, true));
+            Check.due("no second beat", 1, x.bus(-1, 0));
+            Check.accepted("off", x.power(n, false));
+            Check.due("state", Steps.OFF, x.state(n));
+            Check.due("beat is gone", "", Steps.pending(x));
+            Check.due("not lost", 0, x.bus(-1, 1));
+            Check.refused("off already", x.power(n, false));
+        }
+    }
+
+    private static void wrongNodes() {
+        FieldNet x = new FieldNet();
+        for (int n : Steps.NO_NODES) {
+            Check.refused("power on of " + n, x.power(n, true));
+            Check.refused("power off of " + n, x.power(n, false));
+        }
+        Check.due("pending", 0, x.bus(-1, 0));
+    }
+
+    private static void offTakesItsFramesAway() {
+        FieldNet x = new FieldNet();
+        x.power(1, true);
+        x.power(2, true);
+        x.inject(1793, 5, 6, 7);
+        x.fail(1, 4);
+        x.fail(2, 5);
+        x.transfer(1, 2, true, 9);
+        x.fail(1, 0);
+        x.fail(2, 0);
+        Check.accepted("off", x.power(1, false));
+        Check.due("what others put stays in its order",
+                "1794 0 0 0, 1793 5 6 7, 130 5 0 0, 1537 1 2 9, 130 0 0 0", Steps.pending(x));
+    }
+
+    private static void offKeepsObjectsAndOnResetsThem() {
+        FieldNet x = new FieldNet();
+        x.identify(3, 77);
+        x.power(3, true);
+        Steps.drain(x);
+        Steps.write(x, 3, 2, 50);
+        Steps.write(x, 3, 3, 102);
+        Steps.write(x, 3, 4, 3);
+        Steps.write(x, 3, 5, 20);
+        Steps.write(x, 3, 6, 811);
+        Steps.write(x, 3, 7, 11512);
+        for (int k = 12; k <= 15; k++) {
+            Steps.write(x, 3, k, -k);
+        }
+        for (int k = 8; k <= 11; k++) {
+            x.input(3, k, k * k);
+        }
+        x.fail(3, 1);
+        String before = "77 2 50 102 3 20 811 11512 64 81 100 121 -12 -13 -14 -15 9";
+        Check.due("before", before, Steps.objects(x, 3));
+        x.power(3, false);
+        Check.due("when off", before, Steps.objects(x, 3));
+        x.power(3, true);
+        Check.due("when on again", "77 0 0 0 0 0 0 0 0 0 0 0 0 0 0 0 9", Steps.objects(x, 3));
+        Check.due("state", Steps.PREPARED, x.state(3));
+    }
+
+    private static FieldNet sendingOnChange() {
+        FieldNet x = Steps.withNodesOn(1);
+        prepareToSend(x);
+        return x;
+    }
+
+    private static void prepareToSend(FieldNet x) {
+        Steps.write(x, 1, 6, 809);
+        Steps.write(x, 1, 5, 20);
+        Steps.run(x, 1);
+    }
+
+    private static void onForgetsSamples() {
+        FieldNet x = sendingOnChange();
+        x.input(1, 8, 1);
+        Check.due("first is sent", "385 0 1 0", Steps.pending(x));
+        x.input(1, 8, 2);
+        Check.due("second is held back", 1, x.bus(-1, 0));
+        x.power(1, false);
+        x.power(1, true);
+        Steps.drain(x);
+        prepareToSend(x);
+        Steps.ticks(x, 25);
+        Check.due("none is held back any more", "", Steps.pending(x));
+        x.input(1, 9, 3);
+        Steps.drain(x);
+        x.power(1, false);
+        x.power(1, true);
+        Steps.drain(x);
+        prepareToSend(x);
+        x.input(1, 9, 4);
+        Check.due("none was sent yet", "385 0 0 4", Steps.pending(x));
+    }
+
+    private static void onForgetsSyncs() {
+        FieldNet x = Steps.withNodesOn(1);
+        Steps.write(x, 1, 4, 2);
+        Steps.run(x, 1);
+        x.inject(128, 0, 0, 0);
+        Steps.drain(x);
+        x.inject(0, 129, 1, 0);
+        Steps.drain(x);
+        Steps.run(x, 1);
+        Check.due("type is 0 now", 0, x.object(1, 4));
+        x.inject(128, 0, 0, 0);
+        Check.due("only the sync is carried", 1, x.tick());
+        Check.due("nothing is sent", "", Steps.pending(x));
+    }
+
+    private static void onForgetsWhatWasHeard() {
+        FieldNet x = Steps.withNodesOn(1);
+        Steps.write(x, 1, 3, 203);
+        x.inject(1794, 5, 0, 0);
+        Steps.drain(x);
+        x.power(1, false);
+        x.power(1, true);
+        Steps.drain(x);
+        Steps.write(x, 1, 3, 203);
+        Steps.ticks(x, 10);
+        Check.due("no error", 0, x.object(1, 1));
+    }
+
+    private static void onForgetsTheReadOut() {
+        FieldNet x = Steps.withNodesOn(1);
+        Check.due("begins", "3 16 11", Steps.answerTo(x, 1, 2, 16, 0));
+        x.power(1, false);
+        x.power(1, true);
+        Check.due("reads out no more", "9 16 5", Steps.answerTo(x, 1, 3, 0, 0));
+    }
+
+    private static void onWithAFullBus() {
+        FieldNet x = new FieldNet();
+        for (int i = 0; i < 24; i++) {
+            Check.accepted("inject", x.inject(2000, i, 0, 0));
+        }
+        Check.accepted("on", x.power(1, true));
+        Check.due("its beat is lost", 1, x.bus(-1, 1));
+        Check.due("pending", 24, x.bus(-1, 0));
+        Check.due("state", Steps.PREPARED, x.state(1));
+    }
+
+    private static void offMeansDeaf() {
+        FieldNet x = Steps.withNodesOn(1);
+        Steps.write(x, 1, 2, 3);
+        x.power(1, false);
+        Check.due("no answer", "none", Steps.answerTo(x, 1, 2, 0, 0));
+        Steps.command(x, 1, 1);
+        Check.due("obeys nothing", Steps.OFF, x.state(1));
+        Steps.command(x, 129, 0);
+        Check.due("is not reset", Steps.OFF, x.state(1));
+        Check.due("objects stay", 3, x.object(1, 2));
+        for (int i = 0; i < 10; i++) {
+            Check.due("no beat", 0, x.tick());
+        }
+    }
+}
