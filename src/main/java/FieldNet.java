@@ -683,7 +683,7 @@ public final class FieldNet {
             int size = Math.min(PART_SIZE, name.length() - position);
             int part = 0;
             for (int i = 0; i < size; i++) {
-                part |= name.charAt(position + i) << 8 * i;
+                part |= name.charAt(position + i) << (8 * i);
             }
             answer(PART, toggle + 2 * size, part, wire);
             position += size;
@@ -819,9 +819,9 @@ public final class FieldNet {
         }
 
         private void takePart(int b, int c, Wire wire) {
-            int most = Math.min(PART_SIZE, b >> 1 & 7);
+            int most = Math.min(PART_SIZE, (b >> 1) & 7);
             for (int i = 0; i < most && size < MOST_LETTERS; i++) {
-                letters[size] = c >> 8 * i & 255;
+                letters[size] = (c >> (8 * i)) & 255;
                 size++;
             }
             if (size >= length || b < 2) {

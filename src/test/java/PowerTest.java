@@ -4,6 +4,7 @@ public final class PowerTest {
         onAndOff();
         wrongNodes();
         offTakesItsFramesAway();
+        offLeavesTheFramesBefore();
         offKeepsObjectsAndOnResetsThem();
         onForgetsSamples();
         onForgetsSyncs();
@@ -53,6 +54,26 @@ public final class PowerTest {
         Check.accepted("off", x.power(1, false));
         Check.due("what others put stays in its order",
                 "1794 0 0 0, 1793 5 6 7, 130 5 0 0, 1537 1 2 9, 130 0 0 0", Steps.pending(x));
+        Check.accepted("off", x.power(2, false));
+        Check.due("again", "1793 5 6 7, 1537 1 2 9", Steps.pending(x));
+        for (int i = 0; i < 22; i++) {
+            Check.accepted("room for 22 others", x.inject(2000 + i, i, 0, 0));
+        }
+        Check.refused("and no more", x.inject(2000, 0, 0, 0));
+        Check.due("the first", 1793, x.bus(0, 0));
+        Check.due("the second", 1537, x.bus(1, 0));
+        for (int i = 0; i < 22; i++) {
+            Check.due("each is a frame of its own", 2000 + i, x.bus(i + 2, 0));
+        }
+    }
+
+    private static void offLeavesTheFramesBefore() {
+        FieldNet x = new FieldNet();
+        x.inject(2000, 1, 2, 3);
+        x.power(1, true);
+        x.power(2, true);
+        x.power(1, false);
+        Check.due("what others put", "2000 1 2 3, 1794 0 0 0", Steps.pending(x));
     }
 
     private static void offKeepsObjectsAndOnResetsThem() {
@@ -104,8 +125,9 @@ public final class PowerTest {
         x.power(1, true);
         Steps.drain(x);
         prepareToSend(x);
-        Steps.ticks(x, 25);
-        Check.due("none is held back any more", "", Steps.pending(x));
+        for (int i = 0; i < 25; i++) {
+            Check.due("none is held back any more", 0, x.tick());
+        }
         x.input(1, 9, 3);
         Steps.drain(x);
         x.power(1, false);

@@ -13,6 +13,7 @@ public final class TransferTest {
         bootWaitsForIt();
         beatDoesNotEndIt();
         bootHoldsTheClient();
+        afterABootItIsTheCallersAgain();
         Check.end();
     }
 
@@ -212,5 +213,26 @@ public final class TransferTest {
         Steps.ticks(x, 1);
         Check.due("client", "1 0 0 1 0", Steps.client(x));
         Check.refused("busy", x.transfer(2, 0, false, 0));
+    }
+
+    private static void afterABootItIsTheCallersAgain() {
+        FieldNet x = new FieldNet();
+        x.expect(1, 1001, 0);
+        x.power(1, true);
+        Steps.ticks(x, 3);
+        Check.due("booted", 4, x.phase(1));
+        for (int write = 0; write <= 1; write++) {
+            x.transfer(1, 1, write == 1, 0);
+            Steps.ticks(x, 1);
+            Check.due("over", 0, x.client(0));
+            Check.due("no phase", 4, x.phase(1));
+            Check.due("no report", "1100 2100", Steps.reports(x));
+        }
+        x.power(1, false);
+        x.transfer(1, 2, false, 0);
+        Steps.ticks(x, 1);
+        x.inject(1793, 0, 0, 0);
+        Steps.ticks(x, 1);
+        Check.due("a beat does not end it", "1 2 0 1 2", Steps.client(x));
     }
 }
