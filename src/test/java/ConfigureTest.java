@@ -8,6 +8,9 @@ public final class ConfigureTest {
         listAsItIsThen();
         listGrowsDuringTheBoot();
         everyBootWritesAgain();
+        listAsItIsBehindTwoWrites();
+        anyValue();
+        oneTwoAndThreeWrites();
         Check.end();
     }
 
@@ -145,5 +148,56 @@ public final class ConfigureTest {
         Steps.ticks(x, 6);
         Check.due("and written again", "1001 0 0 0 0 0 0 0 0 0 0 0 1 2 0 0 11", Steps.objects(x, 1));
         Check.due("reports", "1100 2100 1100 2100", Steps.reports(x));
+    }
+
+    private static void listAsItIsBehindTwoWrites() {
+        FieldNet x = bootedAsFarAsTheFirstWrite();
+        Steps.ticks(x, 1);
+        Check.due("both are written", "1 2", x.object(1, 12) + " " + x.object(1, 13));
+        FieldNet y = bootedAsFarAsTheFirstWrite();
+        Steps.carryOne(y);
+        Check.due("the second write is under way", "1537 1 13 2", Steps.pending(y));
+        y.expect(1, 1001, 0);
+        y.configure(1, 14, 3);
+        y.configure(1, 14, 4);
+        y.configure(1, 15, 5);
+        Steps.ticks(y, 5);
+        Check.due("only the third of the new list", "1001 0 0 0 0 0 0 0 0 0 0 0 1 2 0 5 11", Steps.objects(y, 1));
+        Check.due("phase", 4, y.phase(1));
+    }
+
+    private static void anyValue() {
+        int[] values = {Integer.MIN_VALUE, Integer.MAX_VALUE, -1};
+        FieldNet x = new FieldNet();
+        x.expect(1, 1001, 0);
+        for (int i = 0; i < 3; i++) {
+            Check.accepted("configure", x.configure(1, 12 + i, values[i]));
+        }
+        x.power(1, true);
+        Steps.ticks(x, 6);
+        for (int i = 0; i < 3; i++) {
+            Check.due("written", values[i], x.object(1, 12 + i));
+        }
+    }
+
+    private static void oneTwoAndThreeWrites() {
+        for (int writes = 0; writes <= 3; writes++) {
+            FieldNet x = new FieldNet();
+            x.expect(4, 1004, 0);
+            for (int i = 0; i < writes; i++) {
+                Check.accepted("configure", x.configure(4, 12 + i, 7));
+            }
+            x.power(4, true);
+            Steps.ticks(x, 1);
+            int carried = 0;
+            for (int i = 0; i < 4; i++) {
+                carried += x.tick();
+            }
+            Check.due("read and writes with their answers, and the command", 3 + 2 * writes, carried);
+            Check.due("phase", 4, x.phase(4));
+            for (int k = 12; k <= 15; k++) {
+                Check.due("object " + k, k < 12 + writes ? 7 : 0, x.object(4, k));
+            }
+        }
     }
 }

@@ -5,6 +5,7 @@ public final class IdentifyTest {
         wrongInputs();
         onlyWhenOff();
         identityOutlastsReset();
+        whatIsExpectedStays();
         Check.end();
     }
 
@@ -58,5 +59,20 @@ public final class IdentifyTest {
         x.power(4, true);
         Check.due("switched on again", 42, x.object(4, 0));
         Check.due("read over the bus", "2 0 42", Steps.answerTo(x, 4, 2, 0, 0));
+    }
+
+    private static void whatIsExpectedStays() {
+        FieldNet x = new FieldNet();
+        x.expect(1, 1001, 0);
+        x.identify(1, 7);
+        x.power(1, true);
+        Steps.ticks(x, 3);
+        Check.due("another identity than expected", 5, x.phase(1));
+        FieldNet y = new FieldNet();
+        y.expect(1, 7, 0);
+        y.identify(1, 7);
+        y.power(1, true);
+        Steps.ticks(y, 3);
+        Check.due("as expected", 4, y.phase(1));
     }
 }

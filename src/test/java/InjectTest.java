@@ -6,6 +6,8 @@ public final class InjectTest {
         fullBus();
         goesToAllStations();
         unknownIdsDoNothing();
+        idsNextToThoseOfNodes();
+        framesThatAreForOthers();
         Check.end();
     }
 
@@ -84,5 +86,55 @@ public final class InjectTest {
             all.append(' ').append(Steps.objects(x, n)).append(' ').append(x.state(n)).append(' ').append(x.phase(n));
         }
         return all.toString();
+    }
+
+    /** All nodes run, each watches and has as its source the next one, and the client is busy with node 1. */
+    private static FieldNet eagerListeners() {
+        FieldNet x = Steps.withNodesOn(1, 2, 3, 4);
+        for (int n = 1; n <= 4; n++) {
+            int m = n % 4 + 1;
+            Steps.write(x, n, 3, 100 * m + 50);
+            Steps.write(x, n, 7, 10000 * m + 1213);
+            Steps.write(x, n, 4, 4);
+        }
+        Steps.command(x, 1, 0);
+        x.power(1, false);
+        x.transfer(1, 5, false, 0);
+        Steps.drain(x);
+        return x;
+    }
+
+    private static void idsNextToThoseOfNodes() {
+        for (int id : new int[] {1, 127, 133, 383, 384, 389, 1407, 1408, 1413, 1535, 1536, 1541, 1791, 1792, 1797, 2047}) {
+            FieldNet x = eagerListeners();
+            String before = allButTheBus(x);
+            for (int a : new int[] {0, 1, 2, 129}) {
+                x.inject(id, a, 5, 7);
+            }
+            Check.due("three carried", 3, x.tick());
+            Check.due("ID " + id, before, allButTheBus(x));
+            Check.due("none is called forth", id + " 129 5 7", Steps.pending(x));
+            Check.due("the last", 1, x.tick());
+            Check.due("ID " + id, before, allButTheBus(x));
+            Check.due("pending", "", Steps.pending(x));
+            Steps.ticks(x, 51);
+            Check.due("no beat was heard", 0, x.object(2, 1) + x.object(3, 1) + x.object(4, 1));
+        }
+    }
+
+    private static void framesThatAreForOthers() {
+        FieldNet x = eagerListeners();
+        String before = allButTheBus(x);
+        x.inject(1409, 1, 5, 3);
+        x.inject(1410, 2, 5, 3);
+        x.inject(1411, 9, 5, 3);
+        Check.due("answers that nobody waits for", 3, x.tick());
+        x.inject(1537, 1, 12, 3);
+        x.inject(385, 0, 3, 3);
+        x.inject(1793, 5, 3, 3);
+        Check.due("a request to one that is off", 3, x.tick());
+        Check.due("only the node behind takes the sample", before.replace("1004 0 0 150 4 0 0 11213 0 0 0 0 0 0",
+                "1004 0 0 150 4 0 0 11213 0 0 0 0 3 3"), allButTheBus(x));
+        Check.due("pending", "", Steps.pending(x));
     }
 }

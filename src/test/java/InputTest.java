@@ -11,6 +11,13 @@ public final class InputTest {
         heldBackWaitsForRunning();
         heldBackIsGoneWhenSent();
         pauseCountsFromALostSampleToo();
+        sampleOfASyncCountsForThePause();
+        firstSampleNeedsNoPause();
+        changeBackIsAChange();
+        otherWritesKeepWhatIsHeldBack();
+        unnamedInputHoldsNothingBack();
+        sameValueHoldsNothingBack();
+        sameValueKeepsWhatIsHeldBack();
         Check.end();
     }
 
@@ -184,5 +191,101 @@ public final class InputTest {
         Steps.ticks(x, 1);
         Check.due("sent", 19, x.bus(-1, 0));
         Check.due("sample", 385, x.bus(18, 0));
+    }
+
+    private static void sampleOfASyncCountsForThePause() {
+        FieldNet x = Steps.withNodesOn(1);
+        Steps.write(x, 1, 6, 808);
+        Steps.write(x, 1, 5, 9);
+        Steps.write(x, 1, 4, 1);
+        Steps.run(x, 1);
+        x.inject(128, 0, 0, 0);
+        Check.due("sync and sample", 2, x.tick());
+        x.inject(128, 0, 0, 0);
+        Check.due("no pause holds back the sample of a sync", 2, x.tick());
+        Steps.command(x, 128, 1);
+        Steps.write(x, 1, 4, 0);
+        Steps.run(x, 1);
+        x.input(1, 8, 5);
+        Check.due("3 above: held back", "", Steps.pending(x));
+        for (int i = 4; i <= 8; i++) {
+            Check.due(i + " above", 0, x.tick());
+        }
+        Check.due("9 above", 1, x.tick());
+    }
+
+    private static void firstSampleNeedsNoPause() {
+        for (int pause = 0; pause <= 20; pause++) {
+            FieldNet x = sender(911, pause);
+            x.input(1, 9, -1);
+            Check.due("pause " + pause, "385 0 -1 0", Steps.pending(x));
+            x.input(1, 11, -2);
+            Check.due("in the same tick", pause == 0 ? 2 : 1, x.bus(-1, 0));
+        }
+    }
+
+    private static void changeBackIsAChange() {
+        FieldNet x = sender(808, 0);
+        x.input(1, 8, 1);
+        x.input(1, 8, 0);
+        x.input(1, 8, 0);
+        Check.due("two changes", "385 0 1 1, 385 0 0 0", Steps.pending(x));
+        x.input(1, 8, Integer.MIN_VALUE);
+        Check.due("any value", 3, x.bus(-1, 0));
+        x.input(1, 8, Integer.MIN_VALUE);
+        Check.due("no change", 3, x.bus(-1, 0));
+    }
+
+    private static void otherWritesKeepWhatIsHeldBack() {
+        FieldNet x = sender(809, 15);
+        x.input(1, 8, 1);
+        x.input(1, 9, 2);
+        Check.due("the first", 1, x.tick());
+        Steps.write(x, 1, 5, 14);
+        Steps.command(x, 2, 1);
+        Steps.command(x, 128, 1);
+        for (int k : new int[] {4, 7, 12}) {
+            Steps.write(x, 1, k, 0);
+        }
+        Steps.write(x, 1, 6, 909);
+        Steps.run(x, 1);
+        for (int i = 10; i <= 13; i++) {
+            Check.due(i + " above", 0, x.tick());
+        }
+        Steps.tickWithoutCarrying(x);
+        Check.due("14 above", "385 0 2 2", Steps.pending(x));
+    }
+
+    private static void unnamedInputHoldsNothingBack() {
+        FieldNet x = sender(809, 5);
+        x.input(1, 8, 1);
+        x.input(1, 10, 2);
+        x.input(1, 11, 3);
+        Check.due("the first", 1, x.tick());
+        for (int i = 0; i < 25; i++) {
+            Check.due("none is held back", 0, x.tick());
+        }
+    }
+
+    private static void sameValueHoldsNothingBack() {
+        FieldNet x = sender(809, 5);
+        x.input(1, 8, 1);
+        x.input(1, 8, 1);
+        x.input(1, 9, 0);
+        Check.due("the first", 1, x.tick());
+        for (int i = 0; i < 25; i++) {
+            Check.due("none is held back", 0, x.tick());
+        }
+    }
+
+    private static void sameValueKeepsWhatIsHeldBack() {
+        FieldNet x = sender(809, 3);
+        x.input(1, 8, 1);
+        x.input(1, 8, 2);
+        x.input(1, 8, 2);
+        x.input(1, 10, 2);
+        Check.due("the first", 1, x.tick());
+        Check.due("2 above", 0, x.tick());
+        Check.due("3 above", 1, x.tick());
     }
 }

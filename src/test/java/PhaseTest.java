@@ -13,6 +13,9 @@ public final class PhaseTest {
         beatDuringTheBootOfANodeNoLongerExpected();
         bootOverAndOver();
         strangeAnswers();
+        beatOfZeroInEveryPhase();
+        beatOfZeroOfANodeThatIsNotExpected();
+        resetWhileTheBootReads();
         Check.end();
     }
 
@@ -208,5 +211,92 @@ public final class PhaseTest {
         y.inject(1409, 4, 4, 5);
         Steps.ticks(y, 1);
         Check.due("has its number of characters as its result", 4, y.phase(1));
+    }
+
+    /** Node 2 at the master in this phase, with the client idle but in the phases 2 and 3. */
+    private static FieldNet inPhase(int phase) {
+        FieldNet x = new FieldNet();
+        x.expect(2, 1002, 0);
+        if (phase == 3 || phase == 6) {
+            x.configure(2, 12, 1);
+        }
+        if (phase > 0) {
+            x.inject(1794, 0, 0, 0);
+            Steps.ticks(x, 1);
+        }
+        if (phase > 1) {
+            Steps.ticks(x, 1);
+        }
+        if (phase > 2 && phase < 7) {
+            x.inject(1410, 2, 0, phase == 5 ? 1 : 1002);
+            Steps.ticks(x, 1);
+        }
+        if (phase == 6) {
+            x.inject(1410, 9, 12, 3);
+            Steps.ticks(x, 1);
+        }
+        if (phase == 7) {
+            Steps.ticks(x, 5);
+        }
+        Check.due("phase", phase, x.phase(2));
+        Check.due("client", phase == 2 || phase == 3 ? 1 : 0, x.client(0));
+        return x;
+    }
+
+    private static void beatOfZeroInEveryPhase() {
+        for (int phase = 0; phase <= 7; phase++) {
+            FieldNet x = inPhase(phase);
+            int reports = x.report(-1);
+            int code = x.client(1);
+            int result = x.client(2);
+            if (phase == 1) {
+                x.transfer(3, 0, false, 0);
+            }
+            x.inject(1794, 0, 0, 0);
+            Steps.ticks(x, 1);
+            Check.due("from phase " + phase, 1, x.phase(2));
+            Check.due("report", 1200, x.report(reports));
+            Check.due("no other report", reports + 1, x.report(-1));
+            Check.due("busy only with what is no boot", phase == 1 ? 1 : 0, x.client(0));
+            Check.due("code stays", code, x.client(1));
+            Check.due("result stays", result, x.client(2));
+        }
+    }
+
+    private static void beatOfZeroOfANodeThatIsNotExpected() {
+        for (int phase = 0; phase <= 7; phase++) {
+            if (phase != 1) {
+                FieldNet x = inPhase(phase);
+                x.expect(2, -1, 0);
+                int busy = x.client(0);
+                int reports = x.report(-1);
+                x.inject(1794, 0, 0, 0);
+                Steps.ticks(x, 1);
+                Check.due("phase stays", phase, x.phase(2));
+                Check.due("client stays", busy, x.client(0));
+                Check.due("report", 1200, x.report(reports));
+            }
+        }
+        FieldNet x = new FieldNet();
+        x.expect(2, -1, 5);
+        x.inject(1794, 5, 0, 0);
+        Steps.ticks(x, 2);
+        x.inject(1794, 0, 0, 0);
+        Steps.ticks(x, 20);
+        Check.due("nothing is heard of it", "1200", Steps.reports(x));
+    }
+
+    private static void resetWhileTheBootReads() {
+        FieldNet x = new FieldNet();
+        x.expect(1, 1001, 0);
+        x.power(1, true);
+        Steps.ticks(x, 1);
+        x.inject(0, 129, 1, 0);
+        Check.due("command, read, answer", 3, x.tick());
+        Check.due("the beat, and the command of the boot", "1793 0 0 0, 0 1 1 0", Steps.pending(x));
+        Check.due("phase", 4, x.phase(1));
+        Check.due("both", 2, x.tick());
+        Check.due("running", Steps.RUNNING, x.state(1));
+        Check.due("and booted anew", 1, x.phase(1));
     }
 }

@@ -12,6 +12,8 @@ public final class PowerTest {
         onForgetsTheReadOut();
         onWithAFullBus();
         offMeansDeaf();
+        offLeavesTheMasterAsItIs();
+        inEveryState();
         Check.end();
     }
 
@@ -197,6 +199,36 @@ public final class PowerTest {
         Check.due("objects stay", 3, x.object(1, 2));
         for (int i = 0; i < 10; i++) {
             Check.due("no beat", 0, x.tick());
+        }
+    }
+
+    private static void offLeavesTheMasterAsItIs() {
+        FieldNet x = new FieldNet();
+        x.expect(1, 1001, 5);
+        x.power(1, true);
+        Steps.ticks(x, 3);
+        x.inject(1793, 5, 0, 0);
+        Steps.ticks(x, 1);
+        x.power(1, false);
+        Check.due("phase", 4, x.phase(1));
+        Check.accepted("still expected", x.configure(1, 12, 1));
+        Steps.ticks(x, 4);
+        Check.due("4 above", "1100 2100", Steps.reports(x));
+        Steps.ticks(x, 1);
+        Check.due("5 above: it was heard", "1100 2100 4100", Steps.reports(x));
+    }
+
+    private static void inEveryState() {
+        for (int command : new int[] {1, 2, 128}) {
+            FieldNet x = Steps.withNodesOn(1);
+            Steps.command(x, command, 1);
+            int state = x.state(1);
+            Check.refused("on already", x.power(1, true));
+            Check.due("state stays", state, x.state(1));
+            Check.accepted("off", x.power(1, false));
+            Check.due("state", Steps.OFF, x.state(1));
+            Check.accepted("on", x.power(1, true));
+            Check.due("state", Steps.PREPARED, x.state(1));
         }
     }
 }

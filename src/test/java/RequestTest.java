@@ -17,6 +17,10 @@ public final class RequestTest {
         readOutOutlastsOtherRequests();
         statesThatAnswer();
         requestsToOthers();
+        onlyPeriodMovesTheBeat();
+        onlyWatchForgetsWhatWasHeard();
+        onlyTypeCountsSyncsAnew();
+        writingTheSameValueCountsAsWriting();
         Check.end();
     }
 
@@ -229,5 +233,87 @@ public final class RequestTest {
         for (int n = 1; n <= 4; n++) {
             Check.due("node " + n, n == 3 ? 8 : 0, x.object(n, 12));
         }
+    }
+
+    /** Objects that may be written while a node runs, but for the one that is looked at. */
+    private static void writeOthers(FieldNet x, int but) {
+        for (int k : new int[] {2, 3, 5, 12, 13, 14, 15}) {
+            if (k != but) {
+                x.inject(1537, 1, k, 0);
+                x.tick();
+            }
+        }
+    }
+
+    private static void onlyPeriodMovesTheBeat() {
+        FieldNet x = Steps.withNodesOn(1);
+        x.inject(1537, 1, 2, 9);
+        Check.due("write and answer", 2, x.tick());
+        writeOthers(x, 2);
+        x.inject(1537, 2, 2, 0);
+        Check.due("7 above: a read and its answer", 2, x.tick());
+        x.inject(1537, 1, 4, 1);
+        Check.due("8 above: write and answer", 2, x.tick());
+        Check.due("9 above: the beat", 1, x.tick());
+    }
+
+    private static void onlyWatchForgetsWhatWasHeard() {
+        FieldNet x = Steps.withNodesOn(1);
+        Steps.write(x, 1, 3, 209);
+        x.inject(1794, 5, 0, 0);
+        Check.due("heard", 1, x.tick());
+        writeOthers(x, 3);
+        for (int k : new int[] {4, 6}) {
+            x.inject(1537, 1, k, 0);
+            x.tick();
+        }
+        Check.due("8 above", 0, x.object(1, 1));
+        x.tick();
+        Check.due("9 above", 1, x.object(1, 1));
+    }
+
+    private static void onlyTypeCountsSyncsAnew() {
+        FieldNet x = Steps.withNodesOn(1);
+        Steps.write(x, 1, 4, 3);
+        Steps.run(x, 1);
+        x.inject(128, 0, 0, 0);
+        Check.due("first", 1, x.tick());
+        writeOthers(x, 4);
+        x.inject(128, 0, 0, 0);
+        Check.due("second", 1, x.tick());
+        Steps.command(x, 128, 1);
+        Steps.write(x, 1, 6, 808);
+        Steps.write(x, 1, 7, 21212);
+        Steps.answerTo(x, 1, 2, 4, 0);
+        Steps.run(x, 1);
+        x.inject(128, 0, 0, 0);
+        Check.due("third, and a sample", 2, x.tick());
+    }
+
+    private static void writingTheSameValueCountsAsWriting() {
+        FieldNet x = Steps.withNodesOn(1);
+        Steps.write(x, 1, 4, 2);
+        Steps.run(x, 1);
+        x.inject(128, 0, 0, 0);
+        Check.due("first", 1, x.tick());
+        Steps.command(x, 128, 1);
+        Steps.write(x, 1, 4, 2);
+        Steps.write(x, 1, 3, 204);
+        x.inject(1794, 5, 0, 0);
+        Check.due("heard", 1, x.tick());
+        Steps.write(x, 1, 3, 204);
+        Steps.ticks(x, 9);
+        Check.due("nothing was heard yet", 0, x.object(1, 1));
+        Steps.run(x, 1);
+        x.inject(128, 0, 0, 0);
+        Check.due("first again", 1, x.tick());
+        x.inject(128, 0, 0, 0);
+        Check.due("second, and a sample", 2, x.tick());
+        x.inject(1537, 1, 2, 2);
+        Check.due("write and answer", 2, x.tick());
+        x.inject(1537, 1, 2, 2);
+        Check.due("write and answer, 1 above", 2, x.tick());
+        Check.due("no beat, 1 above the second", 0, x.tick());
+        Check.due("beat, 2 above the second", 1, x.tick());
     }
 }

@@ -1,5 +1,7 @@
 /** Promise 14: state, and the commands that change it. */
 public final class StateTest {
+    private static final int[] COMMANDS = {1, 2, 128};
+
     public static void main(String[] args) {
         noSuchNode();
         commands();
@@ -7,6 +9,11 @@ public final class StateTest {
         otherCommands();
         commandsChangeNothingElse();
         resetByCommand();
+        commandsLeaveTheBeat();
+        commandsLeaveWhatWasHeard();
+        commandsLeaveTheSyncs();
+        commandsLeaveTheReadOut();
+        commandsLeaveWhatIsHeldBack();
         Check.end();
     }
 
@@ -87,5 +94,76 @@ public final class StateTest {
         Check.due("beat", "1793 0 0 0", Steps.pending(x));
         Check.due("objects", "1001 0 0 0 0 0 0 0 0 0 0 0 0 0 0 0 11", Steps.objects(x, 1));
         Check.due("state", Steps.PREPARED, x.state(1));
+    }
+
+    private static void commandsLeaveTheBeat() {
+        for (int a : COMMANDS) {
+            FieldNet x = Steps.withNodesOn(1);
+            x.inject(1537, 1, 2, 4);
+            Check.due("write and answer", 2, x.tick());
+            x.inject(0, a, 1, 0);
+            Check.due("1 above: the command", 1, x.tick());
+            Check.due("2 above", 0, x.tick());
+            Check.due("3 above", 0, x.tick());
+            Check.due("4 above: the beat", 1, x.tick());
+        }
+    }
+
+    private static void commandsLeaveWhatWasHeard() {
+        for (int a : COMMANDS) {
+            FieldNet x = Steps.withNodesOn(1);
+            Steps.write(x, 1, 3, 204);
+            x.inject(1794, 5, 0, 0);
+            Check.due("heard", 1, x.tick());
+            x.inject(0, a, 1, 0);
+            Check.due("1 above: the command", 1, x.tick());
+            Steps.ticks(x, 2);
+            Check.due("3 above", 0, x.object(1, 1));
+            Steps.ticks(x, 1);
+            Check.due("4 above", 1, x.object(1, 1));
+        }
+    }
+
+    private static void commandsLeaveTheSyncs() {
+        for (int a : COMMANDS) {
+            FieldNet x = Steps.withNodesOn(1);
+            Steps.write(x, 1, 4, 2);
+            Steps.run(x, 1);
+            x.inject(128, 0, 0, 0);
+            Check.due("first", 1, x.tick());
+            Steps.command(x, a, 1);
+            Steps.run(x, 1);
+            x.inject(128, 0, 0, 0);
+            Check.due("second, and a sample", 2, x.tick());
+        }
+    }
+
+    private static void commandsLeaveTheReadOut() {
+        for (int a : COMMANDS) {
+            FieldNet x = Steps.withNodesOn(1);
+            Steps.answerTo(x, 1, 2, 16, 0);
+            Steps.answerTo(x, 1, 3, 0, 0);
+            Steps.command(x, a, 1);
+            Steps.run(x, 1);
+            Check.due("goes on", "4 9", Steps.answerTo(x, 1, 3, 1, 0).substring(0, 3));
+        }
+    }
+
+    private static void commandsLeaveWhatIsHeldBack() {
+        for (int a : COMMANDS) {
+            FieldNet x = Steps.withNodesOn(1);
+            Steps.write(x, 1, 6, 808);
+            Steps.write(x, 1, 5, 9);
+            Steps.run(x, 1);
+            x.input(1, 8, 1);
+            x.input(1, 8, 2);
+            Steps.drain(x);
+            Steps.command(x, a, 1);
+            Steps.run(x, 1);
+            for (int i = 4; i <= 8; i++) {
+                Check.due(i + " above", 0, x.tick());
+            }
+            Check.due("9 above: the held back sample", 1, x.tick());
+        }
     }
 }

@@ -8,6 +8,8 @@ public final class SyncTest {
         writingTypeCountsAnew();
         sampleFillsOutputs();
         onlyTheSourceFills();
+        syncsAreCountedOnlyWhenRunning();
+        offNodesTakeNoSample();
         Check.end();
     }
 
@@ -153,5 +155,32 @@ public final class SyncTest {
         x.inject(388, 0, 1, 2);
         Steps.drain(x);
         Check.due("no source", "1002 0 0 0 0 0 0 0 0 0 0 0 0 0 0 0 11", Steps.objects(x, 2));
+    }
+
+    private static void syncsAreCountedOnlyWhenRunning() {
+        for (int a : new int[] {2, 128}) {
+            FieldNet x = Steps.withNodesOn(1);
+            Steps.write(x, 1, 4, 2);
+            Steps.command(x, a, 1);
+            for (int i = 0; i < 3; i++) {
+                x.inject(128, 0, 0, 0);
+                Check.due("not running", 1, x.tick());
+            }
+            Steps.run(x, 1);
+            x.inject(128, 0, 0, 0);
+            Check.due("first", 1, x.tick());
+            x.inject(128, 0, 0, 0);
+            Check.due("second, and a sample", 2, x.tick());
+        }
+    }
+
+    private static void offNodesTakeNoSample() {
+        FieldNet x = Steps.withNodesOn(2);
+        Steps.write(x, 2, 7, 11213);
+        Steps.run(x, 2);
+        x.power(2, false);
+        x.inject(385, 0, 1, 2);
+        Check.due("carried", 1, x.tick());
+        Check.due("outputs", 0, x.object(2, 12) + x.object(2, 13));
     }
 }

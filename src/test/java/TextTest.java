@@ -17,6 +17,11 @@ public final class TextTest {
         lengthAgain();
         refusedReadOut();
         bytes();
+        fewerThanTwelve();
+        lengthsAroundTwelve();
+        longTextEndsLate();
+        othersArePassedOver();
+        togglesTurnAround();
         Check.end();
     }
 
@@ -258,5 +263,103 @@ public final class TextTest {
         FieldNet x = lengthHasCome(4);
         part(x, 8, 0xff800100);
         Check.due("lowest first", "0 1 128 255", x.text(0) + " " + x.text(1) + " " + x.text(2) + " " + x.text(3));
+    }
+
+    /** A text that has so many characters by now, and wants many more; the toggle that is due next is given back. */
+    private static int grown(FieldNet x, int size) {
+        int toggle = 0;
+        for (int i = 0; i < size; i++) {
+            part(x, 2 + toggle, 0x41 + i);
+            toggle = 1 - toggle;
+        }
+        Check.due("grown", size, Steps.text(x).length());
+        return toggle;
+    }
+
+    private static void fewerThanTwelve() {
+        for (int size = 8; size <= 12; size++) {
+            for (int more = 1; more <= 7; more++) {
+                FieldNet x = lengthHasCome(100);
+                int toggle = grown(x, size);
+                String request = requestAfter(x, toggle + 2 * more, 0x7a797877);
+                Check.due("the next request", "1538 3 " + (1 - toggle) + " 0", request);
+                String all = "ABCDEFGHIJKL".substring(0, size) + "wxyz".substring(0, Math.min(4, more));
+                Check.due(size + " and " + more, all.substring(0, Math.min(12, all.length())), Steps.text(x));
+                Check.due("a 13th", -1, x.text(12));
+                Check.due("goes on", "1 0 0 2 5", Steps.client(x));
+            }
+        }
+    }
+
+    /** What is pending when a part has come. */
+    private static String requestAfter(FieldNet x, int b, int c) {
+        x.inject(1410, 4, b, c);
+        Steps.carryOne(x);
+        return Steps.pending(x);
+    }
+
+    private static void lengthsAroundTwelve() {
+        for (int length = 11; length <= 14; length++) {
+            FieldNet x = lengthHasCome(length);
+            part(x, 8, ABCD);
+            part(x, 9, ABCD);
+            part(x, 8, ABCD);
+            Check.due("length " + length, length <= 12 ? "0 0 12 0 -1" : "1 0 0 2 5", Steps.client(x));
+        }
+        FieldNet just = lengthHasCome(11);
+        part(just, 8, ABCD);
+        part(just, 9, ABCD);
+        part(just, 6, ABCD);
+        Check.due("11 of 11", "0 0 11 0 -1", Steps.client(just));
+        FieldNet less = lengthHasCome(12);
+        part(less, 8, ABCD);
+        part(less, 9, ABCD);
+        part(less, 6, ABCD);
+        Check.due("11 of 12", "1 0 0 2 5", Steps.client(less));
+    }
+
+    private static void longTextEndsLate() {
+        FieldNet x = lengthHasCome(13);
+        part(x, 8, ABCD);
+        part(x, 9, ABCD);
+        part(x, 8, ABCD);
+        Steps.ticks(x, 4);
+        Check.due("it wants one more", "1 0 0 2 5", Steps.client(x));
+        Steps.ticks(x, 1);
+        Check.due("late", "0 7 0 0 -1", Steps.client(x));
+        Check.due("text", "ABCDABCDABCD", Steps.text(x));
+    }
+
+    private static void othersArePassedOver() {
+        int[][] answers = {{0, 8, ABCD}, {5, 8, ABCD}, {8, 8, ABCD}, {10, 8, ABCD}, {-1, 8, ABCD}, {1, 5, 0}, {1, 8, 0},
+            {2, 4, 66}, {2, 16, 66}, {3, 4, 9}, {3, 16, 9}, {9, 4, 3}, {9, 16, 3}};
+        for (int[] answer : answers) {
+            FieldNet x = lengthHasCome(8);
+            x.inject(1410, answer[0], answer[1], answer[2]);
+            Check.due("the answer alone", 1, x.tick());
+            String what = answer[0] + " " + answer[1] + " " + answer[2];
+            Check.due(what, "1 0 0 2 5", Steps.client(x));
+            Check.due(what + ": no text", "", Steps.text(x));
+            Check.due(what + ": no request", "", Steps.pending(x));
+            part(x, 8, ABCD);
+            Check.due(what + ": the toggle is the same", "ABCD", Steps.text(x));
+        }
+        for (int id : new int[] {1408, 1409, 1411, 1412, 1413}) {
+            FieldNet x = lengthHasCome(8);
+            x.inject(id, 4, 8, ABCD);
+            x.tick();
+            Check.due("of another node", "", Steps.text(x));
+        }
+    }
+
+    private static void togglesTurnAround() {
+        FieldNet x = lengthHasCome(100);
+        for (int i = 0; i < 12; i++) {
+            part(x, 2 + (i + 1) % 2, 0x2a);
+            Check.due("the other toggle", i, Steps.text(x).length());
+            part(x, 2 + i % 2, 0x41 + i);
+            Check.due("the toggle", i + 1, Steps.text(x).length());
+        }
+        Check.due("text", "ABCDEFGHIJKL", Steps.text(x));
     }
 }

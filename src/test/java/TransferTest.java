@@ -14,6 +14,9 @@ public final class TransferTest {
         beatDoesNotEndIt();
         bootHoldsTheClient();
         afterABootItIsTheCallersAgain();
+        lateHasNoResult();
+        lateLeavesItsRequest();
+        lateAnswerIsPassedOver();
         Check.end();
     }
 
@@ -234,5 +237,43 @@ public final class TransferTest {
         x.inject(1793, 0, 0, 0);
         Steps.ticks(x, 1);
         Check.due("a beat does not end it", "1 2 0 1 2", Steps.client(x));
+    }
+
+    private static void lateHasNoResult() {
+        FieldNet x = Steps.withNodesOn(1);
+        x.transfer(1, 0, false, 0);
+        Steps.ticks(x, 1);
+        Check.due("a result", 1001, x.client(2));
+        x.transfer(2, 0, false, 0);
+        Steps.ticks(x, 5);
+        Check.due("late", "0 7 0 0 -1", Steps.client(x));
+    }
+
+    private static void lateLeavesItsRequest() {
+        FieldNet x = Steps.withNodesOn(1);
+        x.transfer(1, 12, true, 5);
+        for (int i = 0; i < 5; i++) {
+            Steps.tickWithoutCarrying(x);
+        }
+        Check.due("late", "0 7 0 0 -1", Steps.client(x));
+        Check.due("pending", "1537 1 12 5", Steps.pending(x));
+        Check.due("request and answer", 2, x.tick());
+        Check.due("served all the same", 5, x.object(1, 12));
+        Check.due("the answer is passed over", "0 7 0 0 -1", Steps.client(x));
+    }
+
+    private static void lateAnswerIsPassedOver() {
+        FieldNet x = Steps.withNodesOn(1);
+        x.transfer(1, 0, false, 0);
+        Steps.carryOne(x);
+        Check.due("answer", "1409 2 0 1001", Steps.pending(x));
+        for (int i = 0; i < 4; i++) {
+            Steps.tickWithoutCarrying(x);
+        }
+        Check.due("late", "0 7 0 0 -1", Steps.client(x));
+        x.transfer(1, 12, true, 5);
+        Check.due("the late answer, the request and its answer", 3, x.tick());
+        Check.due("a late answer to a read does not end a write", 5, x.object(1, 12));
+        Check.due("client", "0 0 0 0 -1", Steps.client(x));
     }
 }

@@ -23,6 +23,21 @@ final class Steps {
         Check.due("pending after draining", 0, x.bus(-1, 0));
     }
 
+    /** Has someone else put frames that mean nothing, and that all others go before, until so many are pending. */
+    static void fillTo(FieldNet x, int count) {
+        for (int i = 0; i < 24 && x.bus(-1, 0) < count; i++) {
+            x.inject(2047, 0, 0, 0);
+        }
+        Check.due("pending after filling", count, x.bus(-1, 0));
+    }
+
+    /** A tick whose slots are all disturbed, so that what it puts can be seen on the bus. */
+    static void tickWithoutCarrying(FieldNet x) {
+        Check.accepted("disturb", x.disturb(3));
+        Check.due("carried", 0, x.tick());
+        Check.accepted("disturb no more", x.disturb(0));
+    }
+
     static FieldNet withNodesOn(int... numbers) {
         FieldNet x = new FieldNet();
         for (int n : numbers) {
@@ -47,6 +62,14 @@ final class Steps {
     static void run(FieldNet x, int n) {
         command(x, 1, n);
         Check.due("runs", RUNNING, x.state(n));
+    }
+
+    /** The code with which the client's write to a node ends. */
+    static int codeOfWrite(FieldNet x, int n, int k, int v) {
+        Check.accepted("transfer", x.transfer(n, k, true, v));
+        x.tick();
+        Check.due("idle after the write of " + v + " to " + k, 0, x.client(0));
+        return x.client(1);
     }
 
     /** What node n answers to a request, as "A B C", or "none". */
@@ -79,6 +102,12 @@ final class Steps {
             all.append(' ').append(x.bus(i, 2)).append(' ').append(x.bus(i, 3));
         }
         return all.toString();
+    }
+
+    /** The pending frame that was put latest, as "ID A B C". */
+    static String latestPending(FieldNet x) {
+        int i = x.bus(-1, 0) - 1;
+        return x.bus(i, 0) + " " + x.bus(i, 1) + " " + x.bus(i, 2) + " " + x.bus(i, 3);
     }
 
     static String reports(FieldNet x) {
