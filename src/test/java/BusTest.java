@@ -5,6 +5,7 @@ public final class BusTest {
         frames();
         wrongInputs();
         orderAfterCarrying();
+        numbersNotSaidAreZero();
         Check.end();
     }
 
@@ -67,5 +68,54 @@ public final class BusTest {
         x.tick();
         x.inject(3, 7, 0, 0);
         Check.due("pending", "2000 4 0 0, 3 7 0 0", Steps.pending(x));
+    }
+
+    /** Frames full of other numbers have gone before, so that nothing of them may be left in those that follow. */
+    private static FieldNet afterFullFrames() {
+        FieldNet x = new FieldNet();
+        for (int n = 1; n <= 2; n++) {
+            x.power(n, true);
+        }
+        Steps.drain(x);
+        for (int i = 0; i < 24; i++) {
+            x.inject(2047, 7, 7, 7);
+        }
+        Steps.drain(x);
+        return x;
+    }
+
+    private static void numbersNotSaidAreZero() {
+        FieldNet x = afterFullFrames();
+        x.power(3, true);
+        x.fail(1, 9);
+        x.transfer(2, 7, false, 7);
+        x.sync(1);
+        Steps.tickWithoutCarrying(x);
+        x.sync(0);
+        Check.due("beat, emergency, request to read, sync",
+                "1795 0 0 0, 129 9 0 0, 1538 2 7 0, 128 0 0 0", Steps.pending(x));
+        FieldNet y = afterFullFrames();
+        y.inject(1537, 1, 5, 7);
+        y.inject(1537, 1, 4, 1);
+        Steps.drain(y);
+        y.inject(0, 1, 1, 7);
+        y.inject(128, 7, 7, 7);
+        y.inject(1, 7, 7, 7);
+        Check.due("carried", 3, y.tick());
+        Check.due("sample", "385 0 0 0", Steps.pending(y));
+        Check.due("answer to a write", "1 12 0", Steps.answerTo(y, 1, 1, 12, 7));
+        Check.due("answer to a read of the name", "3 16 11", Steps.answerTo(y, 1, 2, 16, 7));
+        Check.due("refusal", "9 7 4", Steps.answerTo(y, 1, 1, 7, 21212));
+        FieldNet z = afterFullFrames();
+        z.transfer(2, 16, false, 7);
+        Steps.carryOne(z);
+        Steps.carryOne(z);
+        Check.due("request to read on", "1538 3 0 0", Steps.pending(z));
+        z.expect(4, 0, 0);
+        z.inject(1796, 0, 7, 7);
+        Steps.ticks(z, 6);
+        z.inject(1412, 2, 0, 0);
+        Steps.carryOne(z);
+        Check.due("command of a boot", "0 1 4 0", Steps.pending(z));
     }
 }

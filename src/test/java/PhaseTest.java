@@ -6,6 +6,9 @@ public final class PhaseTest {
         lowestNodeFirst();
         otherIdentity();
         refusedRead();
+        everyCodeButZeroAndSeven();
+        codeSevenOverTheBus();
+        codeZeroOfARefusedWrite();
         silentNode();
         silentWrite();
         beatDuringTheBootBeginsAnew();
@@ -97,11 +100,45 @@ public final class PhaseTest {
         Check.due("phase", 6, x.phase(2));
         Check.due("reports", "1200 3206", Steps.reports(x));
         Check.due("client", "0 3 0 0 -1", Steps.client(x));
+    }
+
+    private static void everyCodeButZeroAndSeven() {
+        for (int code : new int[] {Integer.MIN_VALUE, -1, 1, 2, 3, 4, 5, 6, 8, 9, 1000, Integer.MAX_VALUE}) {
+            FieldNet x = bootUnderWay();
+            x.inject(1410, 9, 0, code);
+            Steps.ticks(x, 1);
+            Check.due("code " + code + " of the read", 6, x.phase(2));
+            FieldNet y = bootUnderWay();
+            y.inject(1410, 2, 0, 1002);
+            Steps.ticks(y, 1);
+            y.inject(1410, 9, 12, code);
+            Steps.ticks(y, 1);
+            Check.due("code " + code + " of a write", 6, y.phase(2));
+            Check.due("reports", "1200 3206", Steps.reports(y));
+        }
+    }
+
+    private static void codeSevenOverTheBus() {
+        FieldNet x = bootUnderWay();
+        x.inject(1410, 9, 0, 7);
+        Steps.ticks(x, 1);
+        Check.due("of the read", 7, x.phase(2));
+        Check.due("reports", "1200 3207", Steps.reports(x));
         FieldNet y = bootUnderWay();
-        y.inject(1410, 9, 0, 7);
+        y.inject(1410, 2, 0, 1002);
         Steps.ticks(y, 1);
-        Check.due("code 7 over the bus", 7, y.phase(2));
-        Check.due("reports", "1200 3207", Steps.reports(y));
+        y.inject(1410, 9, 12, 7);
+        Steps.ticks(y, 1);
+        Check.due("of a write", 7, y.phase(2));
+    }
+
+    private static void codeZeroOfARefusedWrite() {
+        FieldNet x = bootUnderWay();
+        x.inject(1410, 2, 0, 1002);
+        Steps.ticks(x, 1);
+        x.inject(1410, 9, 12, 0);
+        Steps.ticks(x, 1);
+        Check.due("the boot goes on", 4, x.phase(2));
     }
 
     private static void silentNode() {
@@ -126,12 +163,6 @@ public final class PhaseTest {
         Steps.ticks(x, 1);
         Check.due("phase", 7, x.phase(2));
         Check.due("reports", "1200 3207", Steps.reports(x));
-        FieldNet y = bootUnderWay();
-        y.inject(1410, 2, 0, 1002);
-        Steps.ticks(y, 1);
-        y.inject(1410, 9, 12, 7);
-        Steps.ticks(y, 1);
-        Check.due("code 7 over the bus", 7, y.phase(2));
     }
 
     private static void beatDuringTheBootBeginsAnew() {

@@ -6,10 +6,6 @@ public final class PowerTest {
         offTakesItsFramesAway();
         offLeavesTheFramesBefore();
         offKeepsObjectsAndOnResetsThem();
-        onForgetsSamples();
-        onForgetsSyncs();
-        onForgetsWhatWasHeard();
-        onForgetsTheReadOut();
         onWithAFullBus();
         offMeansDeaf();
         offLeavesTheMasterAsItIs();
@@ -103,77 +99,6 @@ public final class PowerTest {
         x.power(3, true);
         Check.due("when on again", "77 0 0 0 0 0 0 0 0 0 0 0 0 0 0 0 9", Steps.objects(x, 3));
         Check.due("state", Steps.PREPARED, x.state(3));
-    }
-
-    private static FieldNet sendingOnChange() {
-        FieldNet x = Steps.withNodesOn(1);
-        prepareToSend(x);
-        return x;
-    }
-
-    private static void prepareToSend(FieldNet x) {
-        Steps.write(x, 1, 6, 809);
-        Steps.write(x, 1, 5, 20);
-        Steps.run(x, 1);
-    }
-
-    private static void onForgetsSamples() {
-        FieldNet x = sendingOnChange();
-        x.input(1, 8, 1);
-        Check.due("first is sent", "385 0 1 0", Steps.pending(x));
-        x.input(1, 8, 2);
-        Check.due("second is held back", 1, x.bus(-1, 0));
-        x.power(1, false);
-        x.power(1, true);
-        Steps.drain(x);
-        prepareToSend(x);
-        for (int i = 0; i < 25; i++) {
-            Check.due("none is held back any more", 0, x.tick());
-        }
-        x.input(1, 9, 3);
-        Steps.drain(x);
-        x.power(1, false);
-        x.power(1, true);
-        Steps.drain(x);
-        prepareToSend(x);
-        x.input(1, 9, 4);
-        Check.due("none was sent yet", "385 0 0 4", Steps.pending(x));
-    }
-
-    private static void onForgetsSyncs() {
-        FieldNet x = Steps.withNodesOn(1);
-        Steps.write(x, 1, 4, 2);
-        Steps.run(x, 1);
-        x.inject(128, 0, 0, 0);
-        Steps.drain(x);
-        x.inject(0, 129, 1, 0);
-        Steps.drain(x);
-        Steps.run(x, 1);
-        Check.due("type is 0 now", 0, x.object(1, 4));
-        x.inject(128, 0, 0, 0);
-        Check.due("only the sync is carried", 1, x.tick());
-        Check.due("nothing is sent", "", Steps.pending(x));
-    }
-
-    private static void onForgetsWhatWasHeard() {
-        FieldNet x = Steps.withNodesOn(1);
-        Steps.write(x, 1, 3, 203);
-        x.inject(1794, 5, 0, 0);
-        Steps.drain(x);
-        x.power(1, false);
-        x.power(1, true);
-        Steps.drain(x);
-        Steps.write(x, 1, 3, 203);
-        Steps.ticks(x, 10);
-        Check.due("no error", 0, x.object(1, 1));
-    }
-
-    private static void onForgetsTheReadOut() {
-        FieldNet x = Steps.withNodesOn(1);
-        Check.due("begins", "3 16 11", Steps.answerTo(x, 1, 2, 16, 0));
-        x.power(1, false);
-        x.power(1, true);
-        Check.due("reads out no more", "9 16 5", Steps.answerTo(x, 1, 3, 0, 0));
     }
 
     private static void onWithAFullBus() {

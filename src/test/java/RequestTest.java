@@ -1,21 +1,12 @@
 /** Promises 12 and 13: requests over the bus, their answers, and what they do to a node's objects. */
 public final class RequestTest {
     private static final int LOW = Integer.MIN_VALUE;
-    private static final int HIGH = Integer.MAX_VALUE;
 
     public static void main(String[] args) {
         reads();
-        noSuchObject();
-        noSuchRequest();
-        notWritable();
-        values();
-        valuesThatNameNodes();
-        notWhileRunning();
-        orderOfCodes();
         nameIsReadOut();
         readOutGoesWrong();
         readOutOutlastsOtherRequests();
-        statesThatAnswer();
         requestsToOthers();
         onlyPeriodMovesTheBeat();
         onlyWatchForgetsWhatWasHeard();
@@ -37,113 +28,6 @@ public final class RequestTest {
         Check.due("output", "2 15 -9", Steps.answerTo(x, 2, 2, 15, 77));
         Check.due("nothing is written", -9, x.object(2, 15));
         Check.due("another node", "2 15 0", Steps.answerTo(x, 1, 2, 15, 0));
-    }
-
-    private static void noSuchObject() {
-        FieldNet x = Steps.withNodesOn(1);
-        for (int k : new int[] {-1, 17, 31, LOW, HIGH}) {
-            Check.due("read", "9 " + k + " 1", Steps.answerTo(x, 1, 2, k, 0));
-            Check.due("write", "9 " + k + " 1", Steps.answerTo(x, 1, 1, k, 0));
-        }
-    }
-
-    private static void noSuchRequest() {
-        FieldNet x = Steps.withNodesOn(1);
-        for (int a : new int[] {0, 4, -1, 9, LOW, HIGH}) {
-            Check.due("request " + a, "9 12 6", Steps.answerTo(x, 1, a, 12, 5));
-            Check.due("request " + a, "9 99 6", Steps.answerTo(x, 1, a, 99, 5));
-        }
-        Check.due("nothing is written", 0, x.object(1, 12));
-    }
-
-    private static void notWritable() {
-        FieldNet x = Steps.withNodesOn(1);
-        String before = Steps.objects(x, 1);
-        for (int k : new int[] {0, 1, 8, 9, 10, 11, 16}) {
-            Check.due("write", "9 " + k + " 2", Steps.answerTo(x, 1, 1, k, 0));
-            Check.due("write", "9 " + k + " 2", Steps.answerTo(x, 1, 1, k, 7));
-        }
-        Check.due("objects", before, Steps.objects(x, 1));
-    }
-
-    private static void taken(int n, int k, int... values) {
-        FieldNet x = Steps.withNodesOn(n);
-        for (int v : values) {
-            Check.due("write " + v, "1 " + k + " 0", Steps.answerTo(x, n, 1, k, v));
-            Check.due("object " + k, v, x.object(n, k));
-        }
-    }
-
-    private static void notTaken(int n, int k, int... values) {
-        FieldNet x = Steps.withNodesOn(n);
-        for (int v : values) {
-            Check.due("write " + v + " to " + k, "9 " + k + " 3", Steps.answerTo(x, n, 1, k, v));
-            Check.due("object " + k, 0, x.object(n, k));
-        }
-    }
-
-    private static void values() {
-        taken(1, 2, 50, 1, 0);
-        notTaken(1, 2, -1, 51, LOW, HIGH);
-        taken(1, 4, 4, 1, 0);
-        notTaken(1, 4, -1, 5, LOW, HIGH);
-        taken(1, 5, 20, 1, 0);
-        notTaken(1, 5, -1, 21, LOW, HIGH);
-        for (int k = 12; k <= 15; k++) {
-            taken(1, k, LOW, HIGH, -1, 0, 1);
-        }
-        for (int a = 8; a <= 11; a++) {
-            taken(1, 6, 100 * a + 8, 100 * a + 9, 100 * a + 10, 100 * a + 11);
-            notTaken(1, 6, 100 * a + 7, 100 * a + 12, 100 * a, 100 * a + 99);
-        }
-        taken(1, 6, 808, 0);
-        notTaken(1, 6, 1, 8, 708, 711, 1208, 1211, -808, -8, 80808, LOW, HIGH);
-    }
-
-    private static void valuesThatNameNodes() {
-        for (int n = 1; n <= 4; n++) {
-            for (int m = 1; m <= 4; m++) {
-                if (m == n) {
-                    notTaken(n, 3, 100 * m + 1, 100 * m + 50);
-                    notTaken(n, 7, 10000 * m + 1212);
-                } else {
-                    taken(n, 3, 100 * m + 1, 100 * m + 50, 0);
-                    notTaken(n, 3, 100 * m, 100 * m + 51, 100 * m + 99, -100 * m - 1);
-                    taken(n, 7, 10000 * m + 1212, 10000 * m + 1215, 10000 * m + 1512, 10000 * m + 1313, 0);
-                    notTaken(n, 7, 10000 * m + 1112, 10000 * m + 1612, 10000 * m + 1211, 10000 * m + 1216,
-                            10000 * m, -10000 * m - 1212);
-                }
-            }
-            notTaken(n, 3, 1, 50, 501, 550, 9901, -1, LOW, HIGH);
-            notTaken(n, 7, 1, 1212, 51212, 101212, -1, LOW, HIGH);
-        }
-    }
-
-    private static void notWhileRunning() {
-        FieldNet x = Steps.withNodesOn(1);
-        Steps.run(x, 1);
-        Check.due("type", "9 4 4", Steps.answerTo(x, 1, 1, 4, 1));
-        Check.due("map", "9 6 4", Steps.answerTo(x, 1, 1, 6, 808));
-        Check.due("source", "9 7 4", Steps.answerTo(x, 1, 1, 7, 21212));
-        Check.due("also 0", "9 4 4", Steps.answerTo(x, 1, 1, 4, 0));
-        Check.due("objects", "1001 0 0 0 0 0 0 0 0 0 0 0 0 0 0 0 11", Steps.objects(x, 1));
-        Check.due("period", "1 2 0", Steps.answerTo(x, 1, 1, 2, 50));
-        Check.due("watch", "1 3 0", Steps.answerTo(x, 1, 1, 3, 250));
-        Check.due("pause", "1 5 0", Steps.answerTo(x, 1, 1, 5, 20));
-        Check.due("output", "1 12 0", Steps.answerTo(x, 1, 1, 12, 6));
-        Check.due("read", "2 4 0", Steps.answerTo(x, 1, 2, 4, 0));
-        Steps.command(x, 128, 1);
-        Check.due("prepared", "1 4 0", Steps.answerTo(x, 1, 1, 4, 1));
-    }
-
-    private static void orderOfCodes() {
-        FieldNet x = Steps.withNodesOn(1);
-        Steps.run(x, 1);
-        Check.due("3 before 4", "9 4 3", Steps.answerTo(x, 1, 1, 4, 5));
-        Check.due("3 before 4", "9 6 3", Steps.answerTo(x, 1, 1, 6, 1));
-        Check.due("3 before 4", "9 7 3", Steps.answerTo(x, 1, 1, 7, 11212));
-        Check.due("1 before all", "9 17 1", Steps.answerTo(x, 1, 1, 17, -1));
-        Check.due("6 before all", "9 17 6", Steps.answerTo(x, 1, 4, 17, -1));
     }
 
     private static int packed(String part) {
@@ -211,19 +95,6 @@ public final class RequestTest {
         Steps.command(x, 1, 1);
         Check.due("goes on", "4 9 " + packed(" 1:1"), Steps.answerTo(x, 1, 3, 1, 0));
         Check.due("the other one", "4 8 " + packed("NODE"), Steps.answerTo(x, 2, 3, 0, 0));
-    }
-
-    private static void statesThatAnswer() {
-        FieldNet x = new FieldNet();
-        Check.due("off", "none", Steps.answerTo(x, 1, 2, 0, 0));
-        x.power(1, true);
-        Check.due("prepared", "2 0 1001", Steps.answerTo(x, 1, 2, 0, 0));
-        Steps.command(x, 1, 1);
-        Check.due("running", "2 0 1001", Steps.answerTo(x, 1, 2, 0, 0));
-        Steps.command(x, 2, 1);
-        Check.due("stopped", "none", Steps.answerTo(x, 1, 2, 0, 0));
-        Check.due("stopped", "none", Steps.answerTo(x, 1, 1, 12, 5));
-        Check.due("nothing is written", 0, x.object(1, 12));
     }
 
     private static void requestsToOthers() {

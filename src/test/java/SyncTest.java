@@ -4,6 +4,7 @@ public final class SyncTest {
         putsOnMultiples();
         wrongInputs();
         nodesCountSyncs();
+        noMapSendsZeros();
         onlyRunningNodesWithAType();
         writingTypeCountsAnew();
         sampleFillsOutputs();
@@ -54,9 +55,15 @@ public final class SyncTest {
                 Check.due("type " + type + ", sync " + i, i % type == 0 ? 2 : 1, x.tick());
             }
         }
+    }
+
+    private static void noMapSendsZeros() {
         FieldNet x = Steps.withNodesOn(3);
         Steps.write(x, 3, 4, 1);
         Steps.run(x, 3);
+        for (int i = 8; i <= 11; i++) {
+            x.input(3, i, i);
+        }
         x.inject(128, 5, 6, 7);
         Steps.carryOne(x);
         Check.due("no map", "387 0 0 0", Steps.pending(x));

@@ -14,6 +14,7 @@ public final class TickTest {
         watchedBeatOfZero();
         masterMissesNodes();
         stepsInTheirOrder();
+        fiveHundredAndTwelveCalls();
         Check.end();
     }
 
@@ -283,5 +284,14 @@ public final class TickTest {
                 "1793 5 0 0, 385 0 2 2, 1794 127 0 0, 128 0 0 0, 1540 2 0 0", Steps.pending(muchIsDue(304)));
         Check.due("beat, emergency, no sample when prepared, the next node, sync, boot",
                 "1793 5 0 0, 129 1 0 0, 1794 127 0 0, 128 0 0 0, 1540 2 0 0", Steps.pending(muchIsDue(303)));
+    }
+
+    private static void fiveHundredAndTwelveCalls() {
+        FieldNet x = new FieldNet();
+        Check.accepted("first call", x.sync(1));
+        for (int i = 1; i <= 510; i++) {
+            Check.due("tick " + i, 1, x.tick());
+        }
+        Check.due("last call: NOW", 510, x.bus(-1, 3));
     }
 }

@@ -8,7 +8,13 @@ public final class TransferTest {
         codeAndResultStayTillItIsOver();
         endsLate();
         lostRequestEndsLate();
-        answersThatDoNotFit();
+        answersOfOtherNodesArePassedOver();
+        answersForOtherObjectsArePassedOver();
+        readAnswersArePassedOverByAWrite();
+        writeAnswersArePassedOverByARead();
+        partsWithoutALengthArePassedOver();
+        unknownAnswersArePassedOver();
+        idleClientPassesOverAll();
         strangeCodes();
         bootWaitsForIt();
         beatDoesNotEndIt();
@@ -135,30 +141,57 @@ public final class TransferTest {
         Check.due("no text: " + what, -1, x.text(0));
     }
 
-    private static void answersThatDoNotFit() {
+    private static void answersOfOtherNodesArePassedOver() {
         passedOver(true, 1409, 1, 5, 0);
         passedOver(true, 1411, 9, 5, 3);
         passedOver(true, 1408, 9, 5, 3);
+        passedOver(false, 1412, 2, 5, 8);
+        passedOver(false, 1411, 3, 5, 8);
+    }
+
+    private static void answersForOtherObjectsArePassedOver() {
         passedOver(true, 1410, 1, 4, 0);
+        passedOver(true, 1410, 9, 6, 3);
+        passedOver(false, 1410, 2, 4, 8);
+        passedOver(false, 1410, 2, -1, 8);
+        passedOver(false, 1410, 3, 16, 8);
+        passedOver(false, 1410, 9, 16, 3);
+    }
+
+    private static void readAnswersArePassedOverByAWrite() {
         passedOver(true, 1410, 2, 5, 8);
         passedOver(true, 1410, 3, 5, 8);
         passedOver(true, 1410, 4, 8, 8);
-        passedOver(true, 1410, 9, 6, 3);
+    }
+
+    private static void writeAnswersArePassedOverByARead() {
         passedOver(false, 1410, 1, 5, 0);
-        passedOver(false, 1410, 2, 4, 8);
-        passedOver(false, 1410, 3, 16, 8);
+    }
+
+    private static void partsWithoutALengthArePassedOver() {
         passedOver(false, 1410, 4, 8, 8);
         passedOver(false, 1410, 4, 5, 8);
-        passedOver(false, 1410, 9, 16, 3);
-        passedOver(false, 1410, 0, 5, 3);
-        passedOver(false, 1410, 5, 5, 3);
-        passedOver(false, 1410, 8, 5, 3);
-        passedOver(false, 1410, 10, 5, 3);
-        FieldNet idle = new FieldNet();
-        idle.inject(1409, 2, 0, 5);
-        idle.inject(1408, 2, -1, 5);
-        Steps.ticks(idle, 1);
-        Check.due("idle", "0 0 0 0 -1", Steps.client(idle));
+        passedOver(false, 1410, 4, 0, 8);
+        passedOver(false, 1410, 4, -2, 8);
+    }
+
+    private static void unknownAnswersArePassedOver() {
+        for (int a : new int[] {Integer.MIN_VALUE, -1, 0, 5, 6, 7, 8, 10, Integer.MAX_VALUE}) {
+            passedOver(false, 1410, a, 5, 3);
+            passedOver(true, 1410, a, 5, 3);
+        }
+    }
+
+    private static void idleClientPassesOverAll() {
+        FieldNet x = new FieldNet();
+        for (int a : new int[] {1, 2, 3, 4, 9}) {
+            x.inject(1409, a, 0, 5);
+            x.inject(1408, a, -1, 5);
+            Check.due("carried", 2, x.tick());
+            Check.due("answer " + a, "0 0 0 0 -1", Steps.client(x));
+            Check.due("nothing is put", "", Steps.pending(x));
+            Check.due("no text", "", Steps.text(x));
+        }
     }
 
     private static void strangeCodes() {
