@@ -109,12 +109,13 @@ public final class AnswerCodeTest {
     }
 
     private static void codeTwoForWhatNothingMayBeWrittenTo(boolean running) {
-        FieldNet x = node(running);
         for (int b : new int[] {0, 1, 8, 9, 10, 11, 16}) {
+            FieldNet y = node(running);
             for (int c : new int[] {LOW, -1, 0, 1}) {
-                Check.due("write to " + b, "9 " + b + " 2", ask(x, 1, b, c));
+                Check.due("write to " + b, "9 " + b + " 2", ask(y, 1, b, c));
             }
         }
+        FieldNet x = node(running);
         Check.due("not the one behind 1", "1 2 0", ask(x, 1, 2, 0));
         Check.due("nor the one before 8", running ? "9 7 4" : "1 7 0", ask(x, 1, 7, 0));
         Check.due("nor the one behind 11", "1 12 0", ask(x, 1, 12, 0));
